@@ -1,0 +1,132 @@
+import java.io.IOException;
+import java.lang.reflect.Constructor;
+import java.lang.reflect.Field;
+import java.lang.reflect.Method;
+import java.lang.reflect.Modifier;
+import java.nio.charset.StandardCharsets;
+import java.nio.file.Files;
+import java.nio.file.Path;
+import java.util.Set;
+import java.util.TreeSet;
+import java.util.regex.Matcher;
+import java.util.regex.Pattern;
+
+/** The public face of the document, and the rules of LANGUAGE.md that a text can show. */
+public final class FaceTest {
+    private static final Due due = new Due();
+
+    private static final String[] METHODS = {
+        "int row(int, int)", "int lay(int, int, int)", "int at(int, int)", "int tear(int)",
+        "int copy(int, int, int, int, int)", "int mean(int)", "int text(int, int)", "int put(int, int, int)",
+        "int fault(int)", "int cabinet(int)", "int minister(int, int)", "int mark(int, int)",
+        "int bar()", "int stop()", "int take(int)", "int nudge(int)", "int undo(int)", "int keep(int)",
+        "int on(int)", "int where(int, int)", "int sits(int)", "int bars(int)", "int when(int)",
+        "int remove(int, int)", "int spare(int, int)", "int reign(int, int, int)", "int kinds(int, int)",
+        "int paces(int, int)", "int places(int, int)", "int tune(int)", "int bribe(int, int)",
+        "int odds(int, int, int)", "int mid(int, int)", "int lots(int, int)", "int asked()",
+        "long upper()", "long lower()", "int count(int)", "int finding()", "int findings(int)",
+        "long digest()"};
+
+    public static void main(String[] args) throws IOException {
+        methods();
+        constants();
+        classes();
+        source(Files.readString(Path.of("src/main/java/ChairCabinet.java"), StandardCharsets.ISO_8859_1));
+        due.end();
+    }
+
+    private static void holds(String what, boolean fact) {
+        due.is(what, fact ? 1 : 0, 1);
+    }
+
+    private static String told(Method method) {
+        StringBuilder all = new StringBuilder();
+        for (Class<?> kind : method.getParameterTypes()) {
+            all.append(all.length() == 0 ? "" : ", ").append(kind.getName());
+        }
+        return method.getReturnType().getName() + " " + method.getName() + "(" + all + ")";
+    }
+
+    private static void methods() {
+        Set<String> wanted = new TreeSet<>(Set.of(METHODS));
+        Set<String> names = new TreeSet<>();
+        for (String method : METHODS) {
+            names.add(method.substring(method.indexOf(' ') + 1, method.indexOf('(')));
+        }
+        for (Method method : ChairCabinet.class.getDeclaredMethods()) {
+            int modifiers = method.getModifiers();
+            if (Modifier.isPublic(modifiers)) {
+                holds("wanted: " + told(method), wanted.remove(told(method)));
+                holds("of an object: " + told(method), !Modifier.isStatic(modifiers));
+            } else {
+                holds("private: " + told(method), Modifier.isPrivate(modifiers));
+                holds("no public one's name: " + told(method), !names.contains(method.getName()));
+            }
+        }
+        due.is("missing: " + wanted, wanted.size(), 0);
+        for (Class<?> inside : ChairCabinet.class.getDeclaredClasses()) {
+            for (Method method : inside.getDeclaredMethods()) {
+                holds("no public one's name: " + inside + " " + told(method), !names.contains(method.getName()));
+                holds("seven parameters at most: " + told(method), method.getParameterCount() <= 7);
+            }
+        }
+        Constructor<?>[] constructors = ChairCabinet.class.getDeclaredConstructors();
+        due.is("constructors", constructors.length, 1);
+        due.is("its parameters", constructors[0].getParameterCount(), 0);
+        holds("it is public", Modifier.isPublic(constructors[0].getModifiers()));
+    }
+
+    private static void constants() {
+        due.is("BAD", ChairCabinet.BAD, -1);
+        due.is("FULL", ChairCabinet.FULL, -2);
+        due.is("FINDING", ChairCabinet.FINDING, -3);
+        due.is("STATE", ChairCabinet.STATE, -4);
+        due.is("SPENT", ChairCabinet.SPENT, -6);
+        due.is("NONE", ChairCabinet.NONE, -9);
+        int open = 0;
+        for (Field field : ChairCabinet.class.getDeclaredFields()) {
+            int modifiers = field.getModifiers();
+            open += Modifier.isPublic(modifiers) ? 1 : 0;
+            holds("public or private: " + field,
+                Modifier.isPublic(modifiers) || Modifier.isPrivate(modifiers));
+            holds("final if static: " + field, !Modifier.isStatic(modifiers) || Modifier.isFinal(modifiers));
+        }
+        due.is("public constants", open, 6);
+    }
+
+    private static void classes() {
+        holds("public", Modifier.isPublic(ChairCabinet.class.getModifiers()));
+        holds("final", Modifier.isFinal(ChairCabinet.class.getModifiers()));
+        holds("without a package", ChairCabinet.class.getPackageName().isEmpty());
+        Class<?>[] inside = ChairCabinet.class.getDeclaredClasses();
+        holds("some twelve classes at most", inside.length <= 11);
+        for (Class<?> one : inside) {
+            int modifiers = one.getModifiers();
+            holds("static: " + one, Modifier.isStatic(modifiers));
+            holds("not open: " + one, !Modifier.isPublic(modifiers) && !Modifier.isProtected(modifiers));
+        }
+    }
+
+    private static void source(String source) {
+        holds("signs 1 to 127", source.chars().allMatch(sign -> sign >= 1 && sign <= 127));
+        String code = source.replaceAll("(?s)/\\*.*?\\*/", " ").replaceAll("//[^\n]*", " ");
+        String[] none = {"throw", "throws", "try", "catch", "finally", "synchronized", "assert", "package",
+            "float", "double", "static\\s*\\{", "->", "::", "instanceof", "Exact", "hashCode", "toString"};
+        for (String one : none) {
+            String whole = Character.isLetter(one.charAt(0)) && !one.endsWith("{") ? "\\b" + one + "\\b" : one;
+            holds("none of: " + one, !Pattern.compile(whole).matcher(code).find());
+        }
+        onlyOf(code, "import ([\\w.*]+)", "java.util.Arrays");
+        onlyOf(code, "\\b(?:Arrays|System|Integer|Math)\\.(\\w+)", "fill", "arraycopy", "bitCount");
+        int methods = code.indexOf("public ChairCabinet()");
+        int nested = code.indexOf("private static final class");
+        holds("no call makes an object", !code.substring(methods, nested).contains("new "));
+    }
+
+    private static void onlyOf(String code, String pattern, String... allowed) {
+        Matcher matcher = Pattern.compile(pattern).matcher(code);
+        while (matcher.find()) {
+            holds("allowed: " + matcher.group(), Set.of(allowed).contains(matcher.group(1)));
+        }
+    }
+}
