@@ -936,6 +936,7 @@ public final class ChairCabinet {
         final int[] places = new int[MOST_MINISTERS];
         int in = 0;
         int chairs = 0;
+        /** On which CHAIRS somebody sits, of the STOP that is or was last; each begins with none. */
         int taken = 0;
         int bars = 0;
         int stops = 0;
@@ -944,17 +945,8 @@ public final class ChairCabinet {
             System.arraycopy(other.places, 0, places, 0, MOST_MINISTERS);
             in = other.in;
             chairs = other.chairs;
-            taken = other.taken;
             bars = other.bars;
             stops = other.stops;
-        }
-
-        void clear() {
-            in = 0;
-            chairs = 0;
-            taken = 0;
-            bars = 0;
-            stops = 0;
         }
 
         boolean isIn(int i) {
@@ -1082,7 +1074,8 @@ public final class ChairCabinet {
         int read(int[] signs, int size) {
             next = 0;
             ministers.count = 0;
-            ring.clear();
+            ring.chairs = 0;
+            ring.in = 0;
             skipBlanks(signs, size);
             if (!readChairs(signs, size)) {
                 return next;

@@ -115,6 +115,8 @@ public final class AsideTest {
         z.take(0);
         z.nudge(0);
         due.is("when(1), latest", z.when(1), 6);
+        ChairCabinet last = Due.of("r3456o038l324l626d436");
+        due.is("when(15), at the last", last.when(15), 20);
     }
 
     private static void remove() {
@@ -182,6 +184,10 @@ public final class AsideTest {
         due.row("reign(0, 2, 0)", y, 0, 2, 2);
         due.is("reign(0, 3, 0)", y.reign(0, 3, 0), 4);
         due.row("reign(0, 3, 0)", y, 0, 2, 2, 0);
+        ChairCabinet far = Due.of("r6m010");
+        due.is("by 5 BARS", far.reign(0, 1, 0), 5);
+        due.row("by 5 BARS", far, 0, 5);
+        due.is("by 6 BARS", Due.of("r7m010").reign(0, 1, 0), Due.NONE);
         ChairCabinet z = Due.of("r0m320");
         due.is("the last CHAIR stays", z.reign(0, 3, 1), 2);
         due.row("the last CHAIR stays", z, 1, 2, 0, 0);

@@ -98,6 +98,7 @@ public final class ChancesTest {
         told("mid(2, 0)", x, x.mid(2, 0), 1, 1);
         told("mid(3, 0)", x, x.mid(3, 0), 0, 1);
         told("mid(3, 4)", x, x.mid(3, 4), 2 * 9 + 2 * 6 + 4, 27);
+        told("mid(6, 12)", x, x.mid(6, 12), 2, 1);
         due.is("mid(7, 0)", x.mid(7, 0), Due.BAD);
         due.is("mid(-1, 0)", x.mid(-1, 0), Due.BAD);
         due.is("mid(0, 13)", x.mid(0, 13), Due.BAD);
@@ -128,6 +129,18 @@ public final class ChancesTest {
         due.is("lots(1, 1), full", x.lots(1, 1), Due.FULL);
         due.is("undo(0)", x.undo(0), 40);
         due.is("all IN again", x.count(3), 3);
+        // Of this seed come, by 8, cut, modulo 8: 2, a NUDGE of the only one; 3, a BAR.
+        ChairCabinet y = Due.of("r03m310");
+        due.is("lots(2, 407355683)", y.lots(2, 407355683), 1);
+        due.is("a BAR", y.count(1), 1);
+        due.is("a NUDGE, too", y.where(0, 0), 5);
+        // 48271 by 8, cut, modulo 8 is 1: the CHAIR of the least PLACE, then of the last one a BAR.
+        due.is("lots(1, 1)", y.lots(1, 1), 1);
+        due.is("a CHAIR fewer", y.count(4), 8);
+        due.is("no BAR", y.count(1), 1);
+        due.is("lots(1, 1) again", y.lots(1, 1), 1);
+        due.is("the last one stays", y.count(4), 8);
+        due.is("a BAR", y.count(1), 2);
     }
 
     /** Does by single calls what LOTS of many seeds should do, and compares. */

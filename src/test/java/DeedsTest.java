@@ -134,6 +134,15 @@ public final class DeedsTest {
         due.is("take(7), the last one", x.take(7), Due.STATE);
         due.is("DEEDS", x.count(2), 2);
         due.is("stop() without it", x.stop(), 0);
+        ChairCabinet y = Due.of("r01234567".substring(0, 7) + "7m010");
+        int[] order = {7, 0, 5, 1, 4, 3};
+        for (int k = 0; k < order.length; k++) {
+            due.is("take(" + order[k] + ")", y.take(order[k]), 6 - k);
+        }
+        due.is("the CHAIR that stays", y.count(4), 4);
+        y.undo(1);
+        due.is("without 7", y.count(4), 127 - 64);
+        due.is("nobody was nudged", y.where(0, 0), 0);
     }
 
     private static void nudge() {
@@ -171,6 +180,16 @@ public final class DeedsTest {
         due.is("bar() again", x.bar(), 39);
         due.is("cabinet() anew", x.cabinet(0), 2);
         due.is("bar() anew", x.bar(), 1);
+        due.is("undo(0)", x.undo(0), 1);
+        for (int deed = 0; deed < 39; deed++) {
+            x.bar();
+        }
+        due.is("stop() is the last one", x.stop(), 1);
+        x.undo(39);
+        due.is("take() is the last one", x.take(0), 1);
+        x.undo(39);
+        due.is("nudge() is the last one", x.nudge(0), 0);
+        due.is("40 DEEDS", x.count(2), 40);
     }
 
     private static String stateOf(ChairCabinet x) {
@@ -252,7 +271,23 @@ public final class DeedsTest {
         x.bar();
         due.is("on(2) anew", x.on(2), 5);
         due.is("on(2) anew: as kept", stateOf(x).equals(fifth) ? 1 : 0, 1);
+        keptAheadOfOthers();
         due.is("cabinet(0)", x.cabinet(0), 6);
         due.finds("on(2) of another CABINET", x, x.on(2), Due.NOTHING);
+    }
+
+    private static void keptAheadOfOthers() {
+        ChairCabinet x = Due.of("r04m010");
+        x.nudge(0);
+        x.keep(0);
+        x.undo(0);
+        x.bar();
+        x.bar();
+        x.keep(1);
+        due.is("on(0)", x.on(0), 1);
+        due.is("the NUDGE, not a BAR", x.count(1), 0);
+        due.is("the PLACE", x.where(0, 0), 1);
+        due.is("on(1)", x.on(1), 2);
+        due.is("two BARS", x.count(1), 2);
     }
 }

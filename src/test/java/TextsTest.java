@@ -99,6 +99,9 @@ public final class TextsTest {
         faultOf("r0m0100", 6);
         faultOf("r0m010 0", 7);
         faultOf("r0m010r1", 6);
+        faultOf("r0m01:", 5);
+        faultOf("r0m01/", 5);
+        faultOf("r/m010", 1);
         faultOf("r0m010o111l229d337a014y115", Due.NONE);
         faultOf("r0m010o111l229d337a014y115  ", Due.NONE);
         faultOf("r0m010o111l229d337a014y115m010", 26);
@@ -107,10 +110,32 @@ public final class TextsTest {
         faultOf("r0\tm010", 2);
         faultOf("r0m010" + (char) 0xA0, 6);
         faultOf((char) (256 - 142) + "0m010", Due.NONE);
+        faultOfWhatStoodBehind();
+        faultOfFullTexts();
         ChairCabinet x = new ChairCabinet();
         due.finds("fault(0)", x, x.fault(0), Due.NOTHING);
         due.is("fault(4)", x.fault(4), Due.BAD);
         due.is("fault(-1)", x.fault(-1), Due.BAD);
+    }
+
+    /** What an earlier, longer TEXT had at a place that there is no more does not count. */
+    private static void faultOfWhatStoodBehind() {
+        String signs = "  r03  m010  o120";
+        for (int size = 0; size < signs.length(); size++) {
+            ChairCabinet x = new ChairCabinet();
+            Due.write(x, 0, signs);
+            Due.write(x, 0, signs.substring(0, size));
+            boolean whole = size == 11 || size == 12 || size == 13;
+            due.is("fault of the first " + size, x.fault(0), whole ? Due.NONE : size);
+        }
+    }
+
+    private static void faultOfFullTexts() {
+        String signs = "r03m010";
+        for (int size = 0; size <= signs.length(); size++) {
+            String ahead = "                                                            ".substring(size);
+            faultOf(ahead + signs.substring(0, size), size == 7 ? Due.NONE : 60);
+        }
     }
 
     private static void cabinet() {
@@ -144,6 +169,10 @@ public final class TextsTest {
         due.finds("anew: on(1)", x, x.on(1), Due.NOTHING);
         x.text(3, 0);
         due.is("a TEXT may change", x.count(0), 3);
+        Due.write(x, 3, "r7m010");
+        due.is("a lesser CABINET", x.cabinet(3), 1);
+        due.is("a lesser CABINET: IN", x.count(3), 1);
+        due.is("a lesser CABINET: CHAIRS", x.count(4), 128);
     }
 
     private static void ministerIs(ChairCabinet x, int i, int... numbers) {

@@ -61,6 +61,9 @@ public final class ToldTest {
         ChairCabinet x = Due.of("r024m310o621a014y222d310");
         int[] first = {5, 0, 0, 31, 1 + 4 + 16, 0, 2, 2, 0, 1, 0};
         countsAre("at first", x, first);
+        ChairCabinet y = Due.of("r0o010a010d010y010");
+        due.is("count(6), the first one too", y.count(6), 2);
+        due.is("count(7)", y.count(7), 2);
         x.bar();
         x.bar();
         x.take(2);
