@@ -1,293 +1,314 @@
-import java.util.ArrayList;
-import java.util.List;
-
-/** Promises 14 to 20: DEEDS, undone, kept, gone on from. */
+/** Promises 14 and 16 to 20: DEEDS, undone, kept, gone on from (15, a STOP: StopsTest). */
 public final class DeedsTest {
-    private static final Due due = new Due();
+    private static final String ALL = "r01346 m023 o115 l229 d437 a114 y630";
+    private static final String[] SOME = {"bar()", "nudge(0)", "bar()", "stop()", "take(3)", "bar()", "stop()",
+        "take(0)", "bar()", "nudge(2)", "stop()", "take(4)"};
 
     public static void main(String[] args) {
-        withoutMinisters();
-        bar();
-        whoLooksFirst();
-        howFarOneLooks();
-        alliesSitOnOthers();
-        deafOnesWalkOn();
-        take();
-        nudge();
-        full();
-        undo();
-        keepAndOn();
-        due.end();
+        Due.run(DeedsTest.class);
     }
 
-    private static void withoutMinisters() {
-        ChairCabinet x = new ChairCabinet();
-        due.is("bar()", x.bar(), Due.STATE);
-        due.is("stop()", x.stop(), Due.STATE);
-        due.is("take(0)", x.take(0), Due.STATE);
-        due.is("take(8)", x.take(8), Due.BAD);
-        due.is("nudge(0)", x.nudge(0), Due.BAD);
-        due.is("undo(0)", x.undo(0), 0);
-        due.is("undo(1)", x.undo(1), Due.BAD);
-        due.is("keep(0)", x.keep(0), Due.STATE);
-        due.is("keep(3)", x.keep(3), Due.BAD);
-        due.finds("on(0)", x, x.on(0), Due.NOTHING);
-        due.is("on(3)", x.on(3), Due.BAD);
+    /** All of a CABINET behind the first n of SOME DEEDS. */
+    private static Run some(int n) {
+        Run run = Run.of(ALL);
+        for (int deed = 0; deed < n; deed++) {
+            run = run.then(SOME[deed]);
+        }
+        return run;
     }
 
-    private static void placesAre(String what, ChairCabinet x, int... places) {
-        for (int i = 0; i < places.length; i++) {
-            due.tells(what + ": PLACE of " + i, x, x.minister(i, 1), 1, places[i]);
+    // ---- what the Terms say
+
+    @Says(of = 0, words = {"What is done: a BAR, a STOP, a CHAIR taken away", "a NUDGE",
+        "These are DEEDS 0, 1, .."})
+    static void whatIsDoneAreDeeds(Due due) {
+        for (int n = 0; n <= SOME.length; n++) {
+            due.is(some(n), "count(2)", n);
         }
     }
 
-    private static void bar() {
-        ChairCabinet x = Due.of("r06m630o620l610d620a420y530");
-        due.is("bar() 1", x.bar(), 1);
-        placesAre("a BAR", x, 1, 7, 7, 0, 6, 0);
-        due.is("bar() 2", x.bar(), 2);
-        placesAre("two BARS", x, 4, 1, 0, 2, 7, 3);
-        ChairCabinet y = Due.of("r0o010m410");
-        y.stop();
-        y.bar();
-        placesAre("who hovers, who is OUT", y, 0, 4);
-        due.is("DEEDS", y.count(2), 2);
-        due.is("STOPS", y.count(5), 1);
-        due.is("BARS", y.count(1), 1);
+    @Says(of = 0, words = "(not the last one)")
+    static void theLastChairStays(Due due) {
+        due.is(Run.of("r25 m010"), "take(5)", 1);
+        due.refuses(Run.of("r25 m010").then("take(5)"), Due.STATE, "take(2)");
     }
 
-    private static void stopIs(String signs, int in, int... places) {
-        ChairCabinet x = Due.of(signs);
-        due.is("stop() of " + signs, x.stop(), Integer.bitCount(in));
-        due.is("who is IN: " + signs, x.count(3), in);
-        placesAre(signs, x, places);
-        due.is("CHAIRS stay: " + signs, x.count(1), 0);
+    @Says(of = 0, words = "(one who is IN comes 1 PLACE on)")
+    static void aNudgeIsBy1Place(Due due) {
+        for (int place = 0; place <= 7; place++) {
+            due.is(Run.of("r0 m" + place + "30"), "nudge(0)", (place + 1) % 8);
+        }
     }
 
-    private static void whoLooksFirst() {
-        stopIs("r2m215m216", 2, 2, 2);
-        stopIs("r2m215m215", 1, 2, 2);
-        stopIs("r2m219l210", 2, 2, 2);
-        stopIs("r2l210m219l211", 4, 2, 2, 2);
-        stopIs("r23m215m216m217", 6, 2, 3, 2);
+    @Says(of = 0, words = "(40 at most)")
+    static void deedsAre40AtMost(Due due) {
+        Run run = Run.of("r01 m010 o110 y220").times(39, "bar()");
+        due.is(run, "bar()", 40);
+        due.refuses(run.then("bar()"), Due.FULL, "bar()", "stop()", "take(0)", "nudge(0)", "lots(1, 1)");
+        due.is(run.then("bar()"), "count(2)", 40);
+        due.is(run.then("bar()"), "keep(0)", 40);
+        due.is(run.then("bar()"), "undo(0)", 40);
     }
 
-    private static void howFarOneLooks() {
-        stopIs("r3m210", 1, 3);
-        stopIs("r4m210", 0, 2);
-        stopIs("r4l210", 0, 2);
-        stopIs("r4o210", 1, 4);
-        stopIs("r5o210", 0, 2);
-        stopIs("r4a210", 1, 4);
-        stopIs("r5a210", 0, 2);
-        stopIs("r34o210", 1, 3);
-        stopIs("r0m710", 1, 0);
-        stopIs("r1o710", 1, 1);
-        stopIs("r1y210", 1, 1);
-        stopIs("r2y210", 1, 2);
-        stopIs("r06y710", 1, 0);
+    // ---- Promise 14: bar
+
+    @Says(of = 14, words = "A BAR: the number of BARS then")
+    static void barTellsTheNumberOfBars(Due due) {
+        Played x = Run.of("r06 m630 o620 l610 d610 a420 y530").made();
+        due.is(x, "bar()", 1);
+        due.is(x, "stop()", 2);
+        due.is(x, "bar()", 2);
+        due.is(x, "count(1)", 2);
+        due.is(x, "count(2)", 3);
+        due.is(x, "count(5)", 1);
+        due.is(x, "undo(1)", 2);
+        due.is(x, "bar()", 2);
+        due.is(x, "asked()", 0);
+        due.is(Run.of("r0 m410").then("stop()"), "bar()", 1);
     }
 
-    private static void alliesSitOnOthers() {
-        stopIs("r2m219a210", 3, 2, 2);
-        stopIs("r4m419a210", 3, 4, 4);
-        stopIs("r4m419o210", 1, 4, 2);
-        stopIs("r5m519a210", 1, 5, 2);
-        stopIs("r34m319a210", 3, 3, 4);
-        stopIs("r34m319m418a210", 7, 3, 4, 3);
-        stopIs("r2m219a211a210", 7, 2, 2, 2);
-        // One on whom an ALLY sits keeps the CHAIR, and nobody else finds it free.
-        stopIs("r2m219a218m211", 3, 2, 2, 2);
-        ChairCabinet x = Due.of("r2m219a218");
-        due.is("stop() 1", x.stop(), 2);
-        due.is("stop() 2: nobody sits yet of this STOP", x.stop(), 2);
-        due.is("STOPS", x.count(5), 2);
+    @Says(of = 14, words = "STATE: no MINISTERS")
+    static void barWithoutMinisters(Due due) {
+        due.refuses(Run.anew(), Due.STATE, "bar()");
+        due.refuses(Run.anew().row(0, 5).text(1, "r0m010"), Due.STATE, "bar()");
+        due.is(Run.of("r0 m010"), "bar()", 1);
     }
 
-    private static void deafOnesWalkOn() {
-        stopIs("r4d220", 1, 4);
-        stopIs("r5d220", 1, 5);
-        stopIs("r23d220", 0, 4);
-        stopIs("r6d220", 0, 4);
-        stopIs("r0d730", 0, 2);
-        stopIs("r3y320", 1, 3);
-        stopIs("r35y320", 1, 5);
-        stopIs("r3m319d210", 1, 3, 3);
-        ChairCabinet x = Due.of("r2y320y319");
-        x.stop();
-        placesAre("a YOUNG one who is OUT came on", x, 5, 2);
-        x.stop();
-        x.bar();
-        placesAre("who is OUT stays", x, 5, 3);
-        due.is("who is IN", x.count(3), 2);
+    @Says(of = 14, words = "FULL: 40 DEEDS")
+    static void barThatIsOneTooMany(Due due) {
+        Run run = Run.of("r04 m010").times(38, "bar()");
+        due.is(run, "bar()", 39);
+        due.is(run.then("bar()"), "bar()", 40);
+        due.refuses(run.then("bar()", "bar()"), Due.FULL, "bar()");
+        due.refuses(run.then("stop()", "stop()"), Due.FULL, "bar()");
+        due.is(run.then("bar()", "bar()", "undo(39)"), "bar()", 40);
+        due.is(run.then("bar()", "bar()", "cabinet(0)"), "bar()", 1);
     }
 
-    private static void take() {
-        ChairCabinet x = Due.of("r257m210");
-        due.is("take(-1)", x.take(-1), Due.BAD);
-        due.is("take(8)", x.take(8), Due.BAD);
-        due.is("take(0): no CHAIR", x.take(0), Due.STATE);
-        due.is("take(5)", x.take(5), 2);
-        due.is("take(5) again", x.take(5), Due.STATE);
-        due.is("CHAIRS", x.count(4), 4 + 128);
-        due.is("take(2)", x.take(2), 1);
-        due.is("take(7), the last one", x.take(7), Due.STATE);
-        due.is("DEEDS", x.count(2), 2);
-        due.is("stop() without it", x.stop(), 0);
-        ChairCabinet y = Due.of("r01234567".substring(0, 7) + "7m010");
+    @Says(of = 14, words = "(FULL last.)")
+    static void barIsFullLast(Due due) {
+        due.refuses(Run.anew(), Due.STATE, "bar()");
+        due.refuses(Run.of("r0 m410").times(40, "stop()"), Due.FULL, "bar()");
+    }
+
+    // ---- Promise 16: take
+
+    @Says(of = 16, words = "The CHAIR at a PLACE is taken away: how many there are then")
+    static void takeTellsHowManyThereAre(Due due) {
         int[] order = {7, 0, 5, 1, 4, 3};
+        Played x = Run.of("r0123457 m010").made();
+        int chairs = 255 - 64;
         for (int k = 0; k < order.length; k++) {
-            due.is("take(" + order[k] + ")", y.take(order[k]), 6 - k);
+            due.is(x, "take(" + order[k] + ")", 6 - k);
+            chairs -= 1 << order[k];
+            due.is(x, "count(4)", chairs);
         }
-        due.is("the CHAIR that stays", y.count(4), 4);
-        y.undo(1);
-        due.is("without 7", y.count(4), 127 - 64);
-        due.is("nobody was nudged", y.where(0, 0), 0);
+        due.is(x, "count(1)", 0);
+        due.is(x, "count(2)", 6);
+        due.is(x, "count(5)", 0);
+        due.is(x, "undo(1)", 5);
+        due.is(x, "count(4)", 127 - 64);
+        due.is(x, "where(0, 0)", 0);
+        due.is(x, "asked()", 0);
     }
 
-    private static void nudge() {
-        ChairCabinet x = Due.of("r0m730o720");
-        due.is("nudge(0)", x.nudge(0), 0);
-        due.is("nudge(0)", x.nudge(0), 1);
-        due.is("nudge(1)", x.nudge(1), 0);
-        due.is("nudge(2)", x.nudge(2), Due.BAD);
-        due.is("nudge(-1)", x.nudge(-1), Due.BAD);
-        due.is("DEEDS", x.count(2), 3);
-        due.is("BARS", x.count(1), 0);
-        x.stop();
-        due.is("nudge(0), OUT", x.nudge(0), Due.STATE);
-        due.is("nudge(1), IN", x.nudge(1), 1);
+    @Says(of = 16, words = "BAD")
+    static void takeAtAPlaceThatIsNone(Due due) {
+        due.is(Run.of("r07 m010"), "take(0)", 1);
+        due.is(Run.of("r07 m010"), "take(7)", 1);
+        due.refusesOutside(Run.rich(), Due.BAD, "take(%)", 0, 7);
+        due.refusesOutside(Run.anew(), Due.BAD, "take(%)", 0, 7);
+        due.refusesOutside(Run.of("r0 m010"), Due.BAD, "take(%)", 0, 7);
     }
 
-    private static void full() {
-        ChairCabinet x = Due.of("r01m010m511");
-        x.stop();
-        for (int deed = 1; deed < 40; deed++) {
-            due.is("bar() " + deed, x.bar(), deed);
-        }
-        due.is("bar(), full", x.bar(), Due.FULL);
-        due.is("stop(), full", x.stop(), Due.FULL);
-        due.is("take(0), full", x.take(0), Due.FULL);
-        due.is("take(2), full", x.take(2), Due.STATE);
-        due.is("take(9), full", x.take(9), Due.BAD);
-        due.is("nudge(0), full", x.nudge(0), Due.FULL);
-        due.is("nudge(1), full", x.nudge(1), Due.STATE);
-        due.is("nudge(2), full", x.nudge(2), Due.BAD);
-        due.is("BARS", x.count(1), 39);
-        due.is("CHAIRS", x.count(4), 3);
-        due.is("keep(0), full", x.keep(0), 40);
-        due.is("undo(39)", x.undo(39), 1);
-        due.is("bar() again", x.bar(), 39);
-        due.is("cabinet() anew", x.cabinet(0), 2);
-        due.is("bar() anew", x.bar(), 1);
-        due.is("undo(0)", x.undo(0), 1);
-        for (int deed = 0; deed < 39; deed++) {
-            x.bar();
-        }
-        due.is("stop() is the last one", x.stop(), 1);
-        x.undo(39);
-        due.is("take() is the last one", x.take(0), 1);
-        x.undo(39);
-        due.is("nudge() is the last one", x.nudge(0), 0);
-        due.is("40 DEEDS", x.count(2), 40);
+    @Says(of = 16, words = "STATE: there is none")
+    static void takeAChairThatThereIsNot(Due due) {
+        due.refuses(Run.rich(), Due.STATE, "take(1)", "take(3)", "take(5)", "take(6)", "take(7)");
+        due.refuses(Run.of("r25 m010"), Due.STATE, "take(0)", "take(1)", "take(3)", "take(4)", "take(6)", "take(7)");
+        due.refuses(Run.anew(), Due.STATE, "take(0)", "take(7)");
     }
 
-    private static String stateOf(ChairCabinet x) {
-        StringBuilder all = new StringBuilder();
-        for (int what = 0; what <= 7; what++) {
-            all.append(x.count(what)).append(' ');
+    @Says(of = 16, words = "or it is the last one")
+    static void takeTheLastChair(Due due) {
+        for (int place = 0; place <= 7; place++) {
+            due.refuses(Run.of("r" + place + " m010"), Due.STATE, "take(" + place + ")");
         }
-        for (int i = 0; i < x.count(0); i++) {
-            x.minister(i, 1);
-            all.append(x.asked()).append(' ');
-        }
-        return all.toString();
+        due.is(Run.of("r257 m010"), "take(5)", 2);
+        due.is(Run.of("r257 m010").then("take(5)"), "take(7)", 1);
+        due.refuses(Run.of("r257 m010").then("take(5)", "take(7)"), Due.STATE, "take(2)");
+        due.is(Run.of("r257 m010").then("take(5)", "take(7)", "undo(1)"), "take(2)", 1);
     }
 
-    private static final int SOME_DEEDS = 12;
-
-    private static void doSome(ChairCabinet x, int deed) {
-        int[] deeds = {0, 20, 0, 1, 13, 0, 1, 10, 0, 0, 1, 14};
-        int what = deeds[deed];
-        int answer = what == 0 ? x.bar() : what == 1 ? x.stop() : what < 20 ? x.take(what - 10)
-            : x.nudge(what - 20);
-        due.is("deed " + deed + " is done", answer >= 0 ? 1 : 0, 1);
+    @Says(of = 16, words = "FULL")
+    static void takeThatIsOneTooMany(Due due) {
+        Run run = Run.of("r04 m010").times(39, "bar()");
+        due.is(run, "take(0)", 1);
+        due.is(run.then("take(0)"), "count(2)", 40);
+        due.refuses(run.then("bar()"), Due.FULL, "take(0)", "take(4)");
     }
 
-    private static void undo() {
-        String signs = "r01346m023o115l229d437a114y630";
-        List<String> states = new ArrayList<>();
-        ChairCabinet x = Due.of(signs);
-        states.add(stateOf(x));
-        for (int deed = 0; deed < SOME_DEEDS; deed++) {
-            doSome(x, deed);
-            states.add(stateOf(x));
-        }
-        for (int n = 0; n <= SOME_DEEDS; n++) {
-            ChairCabinet y = Due.of(signs);
-            for (int deed = 0; deed < SOME_DEEDS; deed++) {
-                doSome(y, deed);
-            }
-            due.is("undo(" + (SOME_DEEDS + 1) + ")", y.undo(SOME_DEEDS + 1), Due.BAD);
-            due.is("undo(-1)", y.undo(-1), Due.BAD);
-            due.is("undo(" + n + ")", y.undo(n), SOME_DEEDS - n);
-            due.is("as ahead of " + n, stateOf(y).equals(states.get(n)) ? 1 : 0, 1);
-            due.is("undo(" + n + ") again", y.undo(n), 0);
-        }
+    @Says(of = 16, words = "(FULL last.)")
+    static void takeIsFullLast(Due due) {
+        Run full = Run.of("r04 m010").times(40, "bar()");
+        due.refuses(full, Due.STATE, "take(1)", "take(7)");
+        due.refuses(full, Due.BAD, "take(8)", "take(-1)");
+        due.refuses(Run.of("r4 m010").times(40, "bar()"), Due.STATE, "take(4)");
+        due.refuses(full, Due.FULL, "take(4)");
     }
 
-    private static void keepAndOn() {
-        ChairCabinet x = Due.of("r01346m023o115l229d437a114y630");
-        due.is("keep(2) at first", x.keep(2), 0);
-        String first = stateOf(x);
-        for (int deed = 0; deed < 5; deed++) {
-            doSome(x, deed);
-        }
-        String fifth = stateOf(x);
-        due.is("keep(0)", x.keep(0), 5);
-        due.is("keep(-1)", x.keep(-1), Due.BAD);
-        due.is("keep(3)", x.keep(3), Due.BAD);
-        due.is("kept ones", x.count(10), 2);
-        for (int deed = 5; deed < 9; deed++) {
-            doSome(x, deed);
-        }
-        String ninth = stateOf(x);
-        due.is("on(-1)", x.on(-1), Due.BAD);
-        due.is("on(3)", x.on(3), Due.BAD);
-        due.finds("on(1)", x, x.on(1), Due.NOTHING);
-        due.is("refused: as it was", stateOf(x).equals(ninth) ? 1 : 0, 1);
-        due.is("keep(1)", x.keep(1), 9);
-        due.is("on(0)", x.on(0), 5);
-        due.is("on(0): as kept", stateOf(x).equals(fifth) ? 1 : 0, 1);
-        due.is("undo(0) behind on(0)", x.undo(0), 5);
-        due.is("as at first", stateOf(x).equals(first) ? 1 : 0, 1);
-        due.is("on(1)", x.on(1), 9);
-        due.is("on(1): as kept", stateOf(x).equals(ninth) ? 1 : 0, 1);
-        due.is("on(2)", x.on(2), 0);
-        due.is("on(2): as kept", stateOf(x).equals(first) ? 1 : 0, 1);
-        due.is("on(0) again", x.on(0), 5);
-        due.is("keep(2) anew", x.keep(2), 5);
-        due.is("kept ones", x.count(10), 3);
-        x.bar();
-        due.is("on(2) anew", x.on(2), 5);
-        due.is("on(2) anew: as kept", stateOf(x).equals(fifth) ? 1 : 0, 1);
-        keptAheadOfOthers();
-        due.is("cabinet(0)", x.cabinet(0), 6);
-        due.finds("on(2) of another CABINET", x, x.on(2), Due.NOTHING);
+    // ---- Promise 17: nudge
+
+    @Says(of = 17, words = "A NUDGE: the PLACE then")
+    static void nudgeTellsThePlace(Due due) {
+        Played x = Run.of("r07 m630 o720 y010").made();
+        due.is(x, "nudge(0)", 7);
+        due.is(x, "nudge(0)", 0);
+        due.is(x, "nudge(1)", 0);
+        due.is(x, "nudge(2)", 1);
+        due.is(x, "count(1)", 0);
+        due.is(x, "count(2)", 4);
+        due.is(x, "count(5)", 0);
+        due.tells(x, "minister(0, 1)", 1, 0);
+        due.tells(x, "minister(1, 1)", 1, 0);
+        due.tells(x, "minister(2, 1)", 1, 1);
     }
 
-    private static void keptAheadOfOthers() {
-        ChairCabinet x = Due.of("r04m010");
-        x.nudge(0);
-        x.keep(0);
-        x.undo(0);
-        x.bar();
-        x.bar();
-        x.keep(1);
-        due.is("on(0)", x.on(0), 1);
-        due.is("the NUDGE, not a BAR", x.count(1), 0);
-        due.is("the PLACE", x.where(0, 0), 1);
-        due.is("on(1)", x.on(1), 2);
-        due.is("two BARS", x.count(1), 2);
+    @Says(of = 17, words = "BAD")
+    static void nudgeOfAMinisterWhoIsNone(Due due) {
+        due.refusesOutside(Run.rich(), Due.BAD, "nudge(%)", 0, 5);
+        due.refusesOutside(Run.of("r0 m010 m010"), Due.BAD, "nudge(%)", 0, 1);
+        due.refusesOutside(Run.anew(), Due.BAD, "nudge(%)", 0, -1);
+        due.is(Run.of("r0 m010 m310"), "nudge(1)", 4);
+    }
+
+    @Says(of = 17, words = "STATE: one is OUT")
+    static void nudgeOfOneWhoIsOut(Due due) {
+        due.refuses(Run.rich(), Due.STATE, "nudge(0)", "nudge(1)", "nudge(3)");
+        due.is(Run.rich(), "nudge(2)", 6);
+        due.is(Run.rich(), "nudge(5)", 7);
+        due.is(Run.rich().then("undo(0)"), "nudge(0)", 1);
+    }
+
+    @Says(of = 17, words = "FULL")
+    static void nudgeThatIsOneTooMany(Due due) {
+        Run run = Run.of("r04 m010").times(39, "bar()");
+        due.is(run, "nudge(0)", 0);
+        due.is(run.then("nudge(0)"), "count(2)", 40);
+        due.refuses(run.then("bar()"), Due.FULL, "nudge(0)");
+    }
+
+    @Says(of = 17, words = "(FULL last.)")
+    static void nudgeIsFullLast(Due due) {
+        Run full = Run.of("r0 m010 m410").then("stop()").times(39, "bar()");
+        due.refuses(full, Due.STATE, "nudge(1)");
+        due.refuses(full, Due.BAD, "nudge(2)", "nudge(-1)");
+        due.refuses(full, Due.FULL, "nudge(0)");
+    }
+
+    // ---- Promise 18: undo
+
+    @Says(of = 18, words = {"DEEDS from number n on", "are undone: how many"})
+    static void undoSomeDeeds(Due due) {
+        for (int n = 0; n <= SOME.length; n++) {
+            due.becomes(some(SOME.length), "undo(" + n + ")", SOME.length - n, some(n));
+        }
+        due.becomes(some(6).then("undo(3)", "bar()"), "undo(3)", 1, some(3));
+        due.becomes(some(6).then("keep(1)"), "undo(3)", 3, some(6).then("keep(1)", "undo(3)"));
+        due.is(some(6).then("keep(1)", "undo(3)"), "on(1)", 6);
+    }
+
+    @Says(of = 18, words = "(0 to how many there are: none then)")
+    static void undo0ToHowManyThereAre(Due due) {
+        due.becomes(some(5), "undo(0)", 5, some(0));
+        due.becomes(some(5), "undo(4)", 1, some(4));
+        due.becomes(some(5), "undo(5)", 0, some(5));
+        due.leaves(Run.rich(), "undo(5)", 0);
+        due.leaves(Run.of("r0 m010"), "undo(0)", 0);
+        due.leaves(Run.anew(), "undo(0)", 0);
+        due.is(Run.of("r0 m010").times(40, "bar()"), "undo(40)", 0);
+        due.is(Run.of("r0 m010").times(40, "bar()"), "undo(0)", 40);
+    }
+
+    @Says(of = 18, words = "BAD")
+    static void undoOfANumberThatIsNone(Due due) {
+        due.refusesOutside(Run.rich(), Due.BAD, "undo(%)", 0, 5);
+        due.refusesOutside(Run.of("r0 m010"), Due.BAD, "undo(%)", 0, 0);
+        due.refusesOutside(Run.anew(), Due.BAD, "undo(%)", 0, 0);
+        due.refusesOutside(Run.of("r0 m010").times(40, "bar()"), Due.BAD, "undo(%)", 0, 40);
+        due.refuses(some(5).then("undo(3)"), Due.BAD, "undo(4)", "undo(5)");
+    }
+
+    // ---- Promise 19: keep
+
+    @Says(of = 19, words = {"The CABINET (as it is, DEEDS) is kept in a place", "how many DEEDS"})
+    static void keepSomeDeeds(Due due) {
+        for (int n : new int[] {0, 1, 5, 12}) {
+            due.is(some(n), "keep(1)", n);
+            due.is(some(n).then("keep(1)"), "count(2)", n);
+            due.is(some(n).then("keep(1)"), "count(10)", 1);
+            due.becomes(some(n).then("keep(1)", "bar()", "undo(0)"), "on(1)", n, some(n).then("keep(1)"));
+        }
+        due.is(Run.of("r0 m010").times(40, "bar()"), "keep(0)", 40);
+    }
+
+    @Says(of = 19, words = "is kept in a place (0 .. 2)")
+    static void keepInEachPlace(Due due) {
+        Run run = some(2).then("keep(0)", "bar()", "keep(1)", "bar()", "keep(2)", "undo(0)");
+        due.is(run, "count(10)", 3);
+        for (int k = 0; k <= 2; k++) {
+            due.is(run, "on(" + k + ")", 2 + k);
+        }
+        due.becomes(run.then("on(1)"), "keep(0)", 3,
+            some(2).then("bar()", "keep(0)", "keep(1)", "bar()", "keep(2)", "undo(3)"));
+        due.refusesOutside(Run.rich(), Due.BAD, "keep(%)", 0, 2);
+    }
+
+    @Says(of = 19, words = "BAD")
+    static void keepIsBadAheadOfState(Due due) {
+        due.refusesOutside(Run.anew(), Due.BAD, "keep(%)", 0, 2);
+    }
+
+    @Says(of = 19, words = "STATE: no MINISTERS")
+    static void keepWithoutMinisters(Due due) {
+        due.refuses(Run.anew(), Due.STATE, "keep(0)", "keep(1)", "keep(2)");
+        due.is(Run.of("r0 m010"), "keep(2)", 0);
+    }
+
+    // ---- Promise 20: on
+
+    @Says(of = 20, words = {"The CABINET is as it was kept", "how many DEEDS"})
+    static void onAsItWasKept(Due due) {
+        for (int n : new int[] {0, 1, 5, 12}) {
+            Run run = some(n).then("keep(0)", "undo(0)").times(3, "nudge(0)");
+            due.becomes(run, "on(0)", n, some(n).then("keep(0)"));
+            due.becomes(run.then("on(0)"), "on(0)", n, some(n).then("keep(0)"));
+        }
+        due.becomes(some(7).then("keep(2)", "undo(4)", "nudge(0)"), "on(2)", 7, some(7).then("keep(2)"));
+        Run full = Run.of("r0 m010").times(40, "bar()").then("keep(1)", "undo(0)");
+        due.is(full, "on(1)", 40);
+        due.refuses(full.then("on(1)"), Due.FULL, "bar()");
+        due.leaves(Run.rich().then("keep(2)"), "on(2)", 5);
+    }
+
+    @Says(of = 20, words = "The CABINET is as it was kept")
+    static void onLeavesWhatIsKept(Due due) {
+        Run run = some(5).then("keep(0)", "bar()", "keep(1)");
+        due.becomes(run.then("on(0)", "stop()", "stop()"), "on(0)", 5, run.then("undo(5)"));
+        due.becomes(run.then("on(0)", "undo(0)"), "on(1)", 6, run);
+    }
+
+    @Says(of = 20, words = "BAD")
+    static void onOfAPlaceThatIsNone(Due due) {
+        due.refusesOutside(Run.rich(), Due.BAD, "on(%)", 0, 2);
+        due.refusesOutside(Run.anew(), Due.BAD, "on(%)", 0, 2);
+    }
+
+    @Says(of = 20, words = "NOTHING")
+    static void onOfAPlaceWhereNothingIsKept(Due due) {
+        due.finds(Run.rich(), Due.NOTHING, "on(2)");
+        due.finds(Run.of("r0 m010"), Due.NOTHING, "on(0)", "on(1)", "on(2)");
+        due.finds(Run.anew(), Due.NOTHING, "on(0)", "on(1)", "on(2)");
+        due.finds(Run.rich().then("cabinet(0)"), Due.NOTHING, "on(0)", "on(1)");
+        due.is(Run.rich(), "on(0)", 1);
     }
 }

@@ -1,4 +1,5 @@
 import java.lang.reflect.Method;
+import java.lang.reflect.Modifier;
 import java.util.ArrayList;
 import java.util.Comparator;
 import java.util.List;
@@ -6,9 +7,12 @@ import java.util.Random;
 
 /** Plays the class against the Model: the same calls by seeds, each answer and what it tells compared. */
 public final class ModelTest {
-    private static final Due due = new Due();
+    private static final Due due = new Due("the Model");
     private static final int[] STRANGE = {-1, 0, 1, 8, 13, 21, 41, 61, 255, 65536, Due.LOW, Due.LOW + 1,
         Due.HIGH, Due.HIGH - 1};
+    /** What later calls of one object answer is free. */
+    private static final int MOST_CALLS = 512;
+    private static final String[] TELLS = {"asked", "upper", "lower", "finding"};
 
     private final Random random;
     private final ChairCabinet x = new ChairCabinet();
@@ -22,40 +26,53 @@ public final class ModelTest {
     public static void main(String[] args) throws ReflectiveOperationException {
         List<Method> methods = new ArrayList<>();
         for (Method method : ChairCabinet.class.getDeclaredMethods()) {
-            if (java.lang.reflect.Modifier.isPublic(method.getModifiers())) {
+            if (Modifier.isPublic(method.getModifiers())) {
                 methods.add(method);
             }
         }
         methods.sort(Comparator.comparing(Method::getName));
-        int runs = args.length > 0 ? Integer.parseInt(args[0]) : 1500;
+        int runs = args.length > 0 ? Integer.parseInt(args[0]) : 3000;
         for (int seed = 0; seed < runs; seed++) {
             ModelTest test = new ModelTest(seed);
-            for (int k = 0; k < 6; k++) {
-                if (!test.writeText() || !test.play(methods, 30)) {
-                    System.out.println("seed " + seed + ": " + String.join("; ", test.calls));
-                    due.end();
-                    return;
-                }
+            if (!test.play(methods)) {
+                System.out.println("seed " + seed + ": " + String.join("; ", test.calls));
+                break;
             }
         }
         faults();
         due.end();
     }
 
-    private boolean play(List<Method> methods, int many) throws ReflectiveOperationException {
-        for (int k = 0; k < many; k++) {
-            Method method = methods.get(random.nextInt(methods.size()));
-            boolean rare = method.getName().equals("cabinet") || method.getName().equals("text")
-                || method.getName().equals("put") || method.getName().equals("undo");
-            Object[] values = new Object[method.getParameterCount()];
-            for (int p = 0; p < values.length; p++) {
-                values[p] = value(method.getName(), p);
-            }
-            if ((!rare || random.nextInt(4) == 0) && !call(method.getName(), values)) {
-                return false;
-            }
+    /** Writes a TEXT, makes some calls, and so on, as long as an object may be used. */
+    private boolean play(List<Method> methods) throws ReflectiveOperationException {
+        boolean same = true;
+        for (int k = 0; same && calls.size() <= MOST_CALLS - 70; k++) {
+            same = k % 30 == 0 ? writeText() : callOneOf(methods);
         }
-        return true;
+        return same && tells("digest", "asked", "upper", "lower", "finding");
+    }
+
+    private boolean callOneOf(List<Method> methods) throws ReflectiveOperationException {
+        Method method = methods.get(random.nextInt(methods.size()));
+        String name = method.getName();
+        boolean rare = name.equals("cabinet") || name.equals("text") || name.equals("put") || name.equals("undo");
+        Object[] values = new Object[method.getParameterCount()];
+        for (int p = 0; p < values.length; p++) {
+            values[p] = value(name, p);
+        }
+        if (rare && random.nextInt(4) != 0) {
+            return true;
+        }
+        return call(name, values) && tells("digest", TELLS[random.nextInt(TELLS.length)])
+            && call("findings", 1 + random.nextInt(5));
+    }
+
+    private boolean tells(String... names) throws ReflectiveOperationException {
+        boolean same = true;
+        for (String name : names) {
+            same = same && call(name);
+        }
+        return same;
     }
 
     private boolean call(String name, Object... values) throws ReflectiveOperationException {
@@ -69,14 +86,7 @@ public final class ModelTest {
         Number got = (Number) ChairCabinet.class.getMethod(name, kinds).invoke(x, values);
         Number want = (Number) Model.class.getDeclaredMethod(name, kinds).invoke(model, values);
         due.is(told.toString(), got.longValue(), want.longValue());
-        boolean same = got.longValue() == want.longValue() && x.asked() == model.asked()
-            && x.upper() == model.upper() && x.lower() == model.lower()
-            && x.finding() == model.finding() && x.digest() == model.digest();
-        for (int f = 1; f <= 5; f++) {
-            same &= x.findings(f) == model.findings(f);
-        }
-        due.is("what is told behind " + told, same ? 1 : 0, 1);
-        return same;
+        return got.longValue() == want.longValue();
     }
 
     /** A number as a call may want it, or a strange one. */
