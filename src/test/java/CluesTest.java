@@ -33,6 +33,19 @@ public final class CluesTest {
     }
 
     @Says(of = 0, words = "a ROW of pairs")
+    static void pairsOfAnEarlierRowAreGone(Due due) {
+        Run longer = WALKER.row(0, 1, 3, 99, 99, 99, 99).then("row(0, 2)", "lay(0, 0, 1)", "lay(0, 1, 3)");
+        all(due, longer, ALL_KINDS, 2, 4);
+        all(due, longer.then("row(0, 0)"), ALL_KINDS, ALL_PACES, ALL_PLACES);
+        Run sixteen = WALKER.row(0, 1, 3, 0, 2, 0, 2, 0, 2, 0, 2, 0, 2, 0, 2, 0, 2, 99, 99);
+        due.finds(sixteen, Due.SIZE, "kinds(0, 0)", "paces(0, 0)", "places(0, 0)");
+        for (int n = 0; n <= 16; n += 2) {
+            all(due, sixteen.then("row(1, " + n + ")", "copy(0, 0, 1, 0, " + n + ")", "row(0, " + n + ")",
+                "copy(1, 0, 0, 0, " + n + ")"), ALL_KINDS, n == 0 ? ALL_PACES : 2, n == 0 ? ALL_PLACES : 4);
+        }
+    }
+
+    @Says(of = 0, words = "a ROW of pairs")
     static void halfAPairIsNone(Due due) {
         due.finds(Run.rich().row(0, 0), Due.SIZE, CALLS);
         due.finds(Run.rich().row(0, 0, 5, 0), Due.SIZE, CALLS);
@@ -46,6 +59,7 @@ public final class CluesTest {
         all(due, WALKER.row(0, 0, 2), ALL_KINDS, ALL_PACES, 4);
         all(due, WALKER.row(0, 20, 6), WALKERS, 2 + 8, 4);
         all(due, WALKER.row(0, 19, 5), WALKERS, 2, 4);
+        all(due, WALKER.row(0, 0, 2, 20, 6, 19, 5), WALKERS, 2, 4);
         for (String bars : new String[] {"-1", "21", "LOW", "HIGH"}) {
             due.finds(Run.rich().row(0, 0, 5).then("lay(0, 0, " + bars + ")"), Due.UNLIKE, CALLS);
             due.finds(Run.rich().row(0, 0, 5, 1, 0).then("lay(0, 2, " + bars + ")"), Due.UNLIKE, CALLS);

@@ -263,6 +263,24 @@ public final class DeedsTest {
         due.refusesOutside(Run.rich(), Due.BAD, "keep(%)", 0, 2);
     }
 
+    @Says(of = 19, words = "(as it is, DEEDS)")
+    static void keepDifferentDeeds(Due due) {
+        Run run = Run.of("r046 m010 o210").then("nudge(0)", "keep(0)", "undo(0)", "bar()", "bar()", "keep(1)",
+            "undo(0)", "take(4)", "stop()", "bar()", "keep(2)", "undo(0)");
+        due.becomes(run, "on(0)", 1, run.then("nudge(0)"));
+        due.becomes(run, "on(1)", 2, run.then("bar()", "bar()"));
+        due.becomes(run, "on(2)", 3, run.then("take(4)", "stop()", "bar()"));
+        Run anew = run.then("nudge(1)", "keep(1)", "undo(0)");
+        due.becomes(anew, "on(0)", 1, anew.then("nudge(0)"));
+        due.becomes(anew, "on(1)", 1, anew.then("nudge(1)"));
+        due.becomes(anew, "on(2)", 3, anew.then("take(4)", "stop()", "bar()"));
+        due.is(run.then("on(0)"), "count(1)", 0);
+        due.tells(run.then("on(0)"), "minister(0, 1)", 1, 1);
+        due.is(run.then("on(1)"), "count(1)", 2);
+        due.tells(run.then("on(1)"), "minister(0, 1)", 1, 2);
+        due.is(run.then("on(2)"), "count(4)", 1 + 64);
+    }
+
     @Says(of = 19, words = "BAD")
     static void keepIsBadAheadOfState(Due due) {
         due.refusesOutside(Run.anew(), Due.BAD, "keep(%)", 0, 2);

@@ -6,8 +6,8 @@ import java.nio.file.Path;
 import java.util.ArrayList;
 import java.util.BitSet;
 import java.util.List;
-import java.util.TreeMap;
 import java.util.Map;
+import java.util.TreeMap;
 import java.util.regex.Matcher;
 import java.util.regex.Pattern;
 
@@ -26,6 +26,7 @@ public final class DocumentTest {
         due.is("promises", sections.size() - 1, PROMISES);
         Map<Integer, BitSet> said = new TreeMap<>();
         for (Class<?> tests : TESTS) {
+            marksAll(tests);
             for (Method test : Due.testsOf(tests)) {
                 Says says = test.getAnnotation(Says.class);
                 for (String words : says.words()) {
@@ -57,6 +58,15 @@ public final class DocumentTest {
             }
         }
         return all;
+    }
+
+    /** A test that forgets to say its words would not be run. */
+    private static void marksAll(Class<?> tests) {
+        for (Method method : tests.getDeclaredMethods()) {
+            boolean isTest = method.getParameterCount() == 1 && method.getParameterTypes()[0] == Due.class;
+            due.is(tests.getName() + "." + method.getName() + ": a test says its words",
+                isTest == method.isAnnotationPresent(Says.class) ? 1 : 0, 1);
+        }
     }
 
     private static void mark(String test, String section, String words, BitSet said) {

@@ -241,8 +241,12 @@ public final class LanguageTest {
         }
         // What a longer TEXT had behind the end of a shorter one that came anew is not there.
         for (int size = 0; size < 6; size++) {
-            Run run = Run.anew().text(0, "r0m010").then("text(0, 6)").text(0, "r0m010".substring(0, size));
-            due.is(run, "fault(0)", size);
+            due.is(Run.anew().text(0, "r0m010").text(0, "r0m010".substring(0, size)), "fault(0)", size);
+            due.is(Run.anew().text(0, "r01234").text(0, "r01234".substring(0, size)), "fault(0)", size);
+        }
+        String ahead = " ".repeat(60);
+        for (int size = 0; size <= 7; size++) {
+            fault(due, ahead.substring(size) + "r03m010".substring(0, size), size == 7 ? Due.NONE : 60);
         }
     }
 

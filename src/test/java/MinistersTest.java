@@ -206,6 +206,7 @@ public final class MinistersTest {
         due.is(Run.of("r0 l015 l016"), "mark(0, 2)", 1);
         due.is(Run.of("r0 l015 l015"), "mark(0, 2)", 0);
         due.is(Run.of("r0 l015 l014"), "mark(0, 2)", 0);
+        due.is(Run.of("r0 l015 l014"), "mark(1, 2)", 1);
         due.is(Run.of("r0 l010 m019"), "mark(0, 2)", 0);
         due.is(Run.of("r0 l010 l011 l012 l013 l014 l015"), "mark(0, 2)", 5);
         due.is(Run.of("r0 l010 l011 l012 l013 l014 l015"), "mark(5, 2)", 0);
