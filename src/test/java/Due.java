@@ -12,6 +12,13 @@ final class Due {
     static final int LOW = Integer.MIN_VALUE, HIGH = Integer.MAX_VALUE;
 
     private static final int NO_FINDING = 0;
+    private static final long MOST_MILLISECONDS = 300_000;
+
+    static {
+        Thread watch = new Thread(Due::endTheEndless);
+        watch.setDaemon(true);
+        watch.start();
+    }
 
     private final String test;
     private int asked = 0;
@@ -19,6 +26,17 @@ final class Due {
 
     Due(String test) {
         this.test = test;
+    }
+
+    /** A call that fails to end should fail its test, not hold up all others. */
+    private static void endTheEndless() {
+        try {
+            Thread.sleep(MOST_MILLISECONDS);
+        } catch (InterruptedException e) {
+            return;
+        }
+        System.out.println("not at its end behind " + MOST_MILLISECONDS + " milliseconds");
+        Runtime.getRuntime().halt(1);
     }
 
     // ---- the tests of a class, each on its own
