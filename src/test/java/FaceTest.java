@@ -6,6 +6,8 @@ import java.lang.reflect.Modifier;
 import java.nio.charset.StandardCharsets;
 import java.nio.file.Files;
 import java.nio.file.Path;
+import java.util.ArrayList;
+import java.util.List;
 import java.util.Set;
 import java.util.TreeSet;
 import java.util.regex.Matcher;
@@ -27,7 +29,8 @@ public final class FaceTest {
         "long upper()", "long lower()", "int count(int)", "int finding()", "int findings(int)",
         "long digest()"};
 
-    public static void main(String[] args) throws IOException {
+    public static void main(String[] args) throws IOException, ReflectiveOperationException {
+        printed();
         methods();
         constants();
         classes();
@@ -45,6 +48,39 @@ public final class FaceTest {
             all.append(all.length() == 0 ? "" : ", ").append(kind.getName());
         }
         return method.getReturnType().getName() + " " + method.getName() + "(" + all + ")";
+    }
+
+    // ---- the face as the document prints it
+
+    private static String printedFace() throws IOException {
+        String document = Files.readString(Path.of("../shared/DOC.md"), StandardCharsets.UTF_8);
+        Matcher face = Pattern.compile("(?s)## The public face\\s+```java\n(.*?)```").matcher(document);
+        return face.find() ? face.group(1) : "";
+    }
+
+    /** The methods of the face, with their parameters' names: "int row(int r, int n)". */
+    static List<String> printedMethods() throws IOException {
+        List<String> all = new ArrayList<>();
+        Matcher method = Pattern.compile("public (\\w+ \\w+\\([^)]*\\));").matcher(printedFace());
+        while (method.find()) {
+            all.add(method.group(1));
+        }
+        return all;
+    }
+
+    private static void printed() throws IOException, ReflectiveOperationException {
+        List<String> printed = new ArrayList<>();
+        for (String method : printedMethods()) {
+            printed.add(method.replaceAll("\\bint (\\w+)(?=[,)])", "int"));
+        }
+        due.same("the methods that are printed", printed, List.of(METHODS));
+        Matcher constants = Pattern.compile("static final int ([^;]*);").matcher(printedFace());
+        String[] each = constants.find() ? constants.group(1).split(", ") : new String[0];
+        due.is("constants that are printed", each.length, 6);
+        for (String constant : each) {
+            String[] sides = constant.split(" = ");
+            due.is(sides[0], ChairCabinet.class.getField(sides[0]).getInt(null), Integer.parseInt(sides[1]));
+        }
     }
 
     private static void methods() {
